@@ -807,7 +807,10 @@ public final class FogMap {
             Arrays.fill(steps, UNREACHED);
             queued = 0;
             reach(from, 0);
-            for (int i = 0; i < queued && steps[to] == UNREACHED; i++) {
+            for (int i = 0; i < CELLS && steps[to] == UNREACHED; i++) {
+                if (i >= queued) {
+                    return NONE;
+                }
                 reachNeighbors(memory, queue[i]);
             }
             return steps[to] == UNREACHED ? NONE : steps[to];

@@ -30,6 +30,9 @@ public final class PromiseTest {
         passIsOneAction();
         undo();
         undoRestoresAll();
+        undoRestoresLists();
+        actionsAreRecorded();
+        sidesLookBehindActions();
         count();
         cell();
         scout();
@@ -38,6 +41,7 @@ public final class PromiseTest {
         known();
         knownIsOld();
         view();
+        viewHeights();
         viewLines();
         twiceTheRange();
         way();
@@ -493,6 +497,67 @@ public final class PromiseTest {
         due("and sees", 25, map.scout(0, 4));
     }
 
+    private static void undoRestoresLists() {
+        FogMap map = new FogMap();
+        map.addScout(0, 1, 2, 3);
+        map.addScout(1, 4, 2, 5);
+        map.addLight(6, 7, 2, 9);
+        map.addLight(8, 7, 3, 4);
+        map.setWall(2, 3, 1);
+        map.setHeight(2, 2, 1);
+        map.removeScout(0);
+        map.removeLight(0);
+        map.setWall(2, 3, 0);
+        map.setHeight(2, 2, 0);
+        for (int left = 3; left >= 0; left--) {
+            map.undo();
+        }
+        int[] scout = {0, 1, 2, 3};
+        int[] light = {6, 7, 2, 9};
+        for (int what = 0; what < 4; what++) {
+            due("scout, " + what, scout[what], map.scout(0, what));
+            due("light, " + what, light[what], map.light(0, what));
+        }
+        due("wall", 1, map.cell(2, 3, 1));
+        due("height", 1, map.cell(2, 2, 0));
+        due("known wall", 1, map.known(0, 2, 3, 2));
+        due("known height", 1, map.known(0, 2, 2, 1));
+        map.setHeight(2, 2, 0);
+        map.removeScout(1);
+        due("known scout is gone", 0, map.known(0, 4, 2, 3));
+        due("undo", 2, map.undo());
+        due("known scout is back", 1, map.known(0, 4, 2, 3));
+    }
+
+    private static void actionsAreRecorded() {
+        Call[] actions = {Call.of("setHeight", 0, 0, 0), Call.of("setWall", 0, 0, 0), Call.of("load"),
+            Call.of("addScout", 0, 0, 0, 1), Call.of("step", 0, 1, 1), Call.of("removeScout", 0),
+            Call.of("addLight", 0, 0, 0, 0), Call.of("setOil", 0, 0), Call.of("removeLight", 0),
+            Call.of("setFogTime", 10), Call.of("pass", 1)};
+        for (Call action : actions) {
+            FogMap map = new FogMap();
+            map.addScout(1, 5, 5, 1);
+            map.addLight(5, 5, 1, 1);
+            action.on(map);
+            due(action + " is recorded once", 3, map.count(10));
+            due("undo of " + action, 2, map.undo());
+        }
+    }
+
+    private static void sidesLookBehindActions() {
+        FogMap map = new FogMap();
+        map.addScout(0, 0, 0, 1);
+        map.addScout(1, 1, 0, 1);
+        due("new scout is known", 1, map.known(0, 1, 0, 3));
+        map.removeScout(1);
+        due("removed scout is known", 0, map.known(0, 1, 0, 3));
+        map.addScout(1, 1, 1, 1);
+        map.addLight(2, 0, 0, 1);
+        due("seen by a new light", 10, map.known(0, 2, 0, 0));
+        map.step(1, 1, 0);
+        due("the other side looks behind a step", 0, map.known(0, 1, 1, 3));
+    }
+
     // Promise 16
     private static void count() {
         FogMap map = new FogMap();
@@ -675,6 +740,24 @@ public final class PromiseTest {
         due("no cell", INVALID, map.view(-1, 0, 0, 0));
     }
 
+    private static void viewHeights() {
+        FogMap map = new FogMap();
+        map.setHeight(0, 0, 2);
+        map.setHeight(1, 0, 2);
+        due("the eye is twice the height, plus 1", 0, map.view(0, 0, 3, 0));
+        due("the goal too", 0, map.view(3, 0, 0, 0));
+        map.setHeight(1, 0, 1);
+        due("lower", 1, map.view(0, 0, 3, 0));
+        map.setHeight(0, 0, 9);
+        map.setHeight(1, 0, 6);
+        due("sight 13, top 12", 1, map.view(0, 0, 3, 0));
+        map.setHeight(1, 0, 7);
+        due("sight 13, top 14", 0, map.view(0, 0, 3, 0));
+        map.setHeight(3, 0, 9);
+        map.setHeight(1, 0, 9);
+        due("sight 19, top 18", 1, map.view(0, 0, 3, 0));
+    }
+
     private static void viewLines() {
         lineIsBlocked(0, 0, 3, 1, new int[][] {{1, 0}, {2, 1}}, new int[][] {{1, 1}, {2, 0}, {0, 0}, {3, 1}});
         lineIsBlocked(0, 0, 2, 1, new int[][] {{1, 1}}, new int[][] {{1, 0}});
@@ -759,8 +842,10 @@ public final class PromiseTest {
         map.setHeight(1, 0, 3);
         map.setHeight(1, 1, 3);
         due("a height that is seen", NONE, map.way(0, 3, 0));
-        map.pass(10);
         map.setHeight(1, 0, 0);
+        map.pass(9);
+        due("nearly fogged", 3, map.way(0, 3, 0));
+        map.pass(1);
         due("fogged again", NONE, map.way(0, 3, 0));
         due("still seen", 1, map.way(0, 1, 0));
     }

@@ -5,8 +5,14 @@ final class Checks {
     private static final int MOST_TOLD = 20;
     private static int passed = 0;
     private static int failed = 0;
+    private static String place = "";
 
     private Checks() {
+    }
+
+    /** Names the case that the next checks belong to. */
+    static void enter(String name) {
+        place = name + ": ";
     }
 
     static void equal(String what, Object want, Object got) {
@@ -16,7 +22,7 @@ final class Checks {
         }
         failed++;
         if (failed <= MOST_TOLD) {
-            System.out.println(what + ": due is " + want + ", the answer was " + got);
+            System.out.println(place + what + ": due is " + want + ", the answer was " + got);
         }
     }
 

@@ -7,6 +7,8 @@ import java.util.List;
  */
 final class Snapshot {
     static final int MOST_CALLS = 512;
+    /** The place of the number of states among the answers. */
+    static final int HISTORY = 10;
     private static final List<Call> QUESTIONS = questions();
 
     private Snapshot() {

@@ -72,6 +72,7 @@ public final class LanguageTest {
             Checks.equal(type + " has few fields", true, type.getDeclaredFields().length <= 20);
             for (Method method : type.getDeclaredMethods()) {
                 checkPrivateName(method);
+                Checks.equal(method + " takes few parameters", true, method.getParameterCount() <= 7);
             }
         }
     }

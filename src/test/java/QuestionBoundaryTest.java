@@ -351,6 +351,24 @@ public final class QuestionBoundaryTest {
                 .does("pass", 1).due(404, "lookout", 0, 1);
     }
 
+    /** Behind the cell in column 3, two cells are hidden from the cell 404, and one from 405. */
+    static void promise23WallsAndHeightsHide() {
+        Boundaries.scoutAt(0, 5, 5, 2).due(404, "lookout", 0, 1).does("setWall", 3, 4, 1).due(406, "lookout", 0, 1);
+        Boundaries.scoutAt(0, 5, 5, 2).does("setHeight", 3, 4, 1).due(406, "lookout", 0, 1)
+                .does("setHeight", 4, 4, 1).due(404, "lookout", 0, 1);
+    }
+
+    /** A step may not lead up there, but the scout may stand there. */
+    static void promise23AHighCell() {
+        Boundaries.scoutAt(0, 5, 5, 2).does("setHeight", 3, 4, 1).does("setHeight", 4, 4, 9).refused(-12, "step", 0, -1, -1)
+                .due(404, "lookout", 0, 1);
+    }
+
+    static void promise23FogDoesNotMatter() {
+        Boundaries.scoutAt(0, 0, 0, 1).due(0, "known", 0, 8, 8, 0).does("setWall", 1, 1, 1).does("setWall", 1, 2, 1)
+                .due(0, "known", 0, 1, 2, 0).due(103, "lookout", 0, 11);
+    }
+
     static void promise23ItsOwnCellIsAmongThem() {
         Boundaries.scoutAt(0, 1, 1, 1).due(101, "lookout", 0, 1).due(101, "lookout", 0, 11);
     }

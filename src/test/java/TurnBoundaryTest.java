@@ -286,4 +286,75 @@ public final class TurnBoundaryTest {
         }
         Checks.equal("all answers after five undos", before, run.answersButHistory());
     }
+
+    static void promise15TheViewBehindAnUndo() {
+        new Run().does("setWall", 5, 5, 1).due(0, "view", 4, 5, 6, 5).does("setWall", 5, 5, 0).due(1, "view", 4, 5, 6, 5)
+                .does("undo").due(0, "view", 4, 5, 6, 5).does("undo").due(1, "view", 4, 5, 6, 5);
+        new Run().does("setHeight", 5, 5, 1).due(0, "view", 4, 5, 6, 5).writes(";;;;;00000;").does("load")
+                .due(0, "view", 4, 5, 6, 5).writes(";;;;;000000;").does("load").due(1, "view", 4, 5, 6, 5)
+                .does("undo").due(0, "view", 4, 5, 6, 5);
+    }
+
+    static void promise15TheWayBehindAnUndo() {
+        Boundaries.scoutAt(0, 5, 5, 1).does("setWall", 6, 5, 1).due(NONE, "way", 0, 6, 5).does("setWall", 6, 5, 0)
+                .due(1, "way", 0, 6, 5).does("undo").due(NONE, "way", 0, 6, 5);
+        Boundaries.scoutAt(0, 5, 5, 1).does("step", 0, 1, 0).due(2, "way", 0, 4, 5).does("pass", 10)
+                .due(NONE, "way", 0, 4, 5).does("undo").due(2, "way", 0, 4, 5).does("undo").due(1, "way", 0, 4, 5);
+    }
+
+    static void promise15TheLookoutBehindAnUndo() {
+        Boundaries.scoutAt(0, 5, 5, 1).due(404, "lookout", 0, 1).does("setWall", 4, 4, 1).due(405, "lookout", 0, 1)
+                .does("undo").due(404, "lookout", 0, 1);
+        Boundaries.scoutAt(0, 5, 5, 1).does("addLight", 7, 2, 0, 1).due(504, "lookout", 0, 1).does("pass", 1)
+                .due(404, "lookout", 0, 1).does("undo").due(504, "lookout", 0, 1);
+    }
+
+    static void promise15WhatIsSeenBehindAnUndo() {
+        Boundaries.scoutAt(0, 5, 5, 1).does("addScout", 0, 6, 5, 1).due(3, "alone", 0).does("removeScout", 1)
+                .due(9, "alone", 0).does("undo").due(3, "alone", 0).due(12, "count", 6);
+        Boundaries.scoutAt(0, 5, 5, 1).does("addScout", 1, 6, 5, 1).due(1, "scout", 1, 5).does("step", 1, 1, 0)
+                .due(0, "scout", 1, 5).does("undo").due(1, "scout", 1, 5).due(1, "known", 0, 6, 5, 3);
+        Boundaries.scoutAt(0, 0, 0, 1).does("addLight", 2, 0, 0, 1).does("pass", 1).due(0, "known", 0, 2, 0, 4)
+                .does("undo").due(1, "known", 0, 2, 0, 4).due(10, "known", 0, 2, 0, 0).due(1, "count", 3);
+    }
+
+    static void promise15WhatIsKnownBehindAnUndo() {
+        Boundaries.scoutAt(0, 5, 5, 1).does("setHeight", 6, 5, 4).due(4, "known", 0, 6, 5, 1)
+                .does("undo").due(0, "known", 0, 6, 5, 1).due(10, "known", 0, 6, 5, 0);
+        Boundaries.scoutAt(0, 5, 5, 1).does("setHeight", 6, 5, 4).does("step", 0, -1, 0).does("setHeight", 6, 5, 7)
+                .does("step", 0, 1, 0).due(7, "known", 0, 6, 5, 1).does("undo").due(4, "known", 0, 6, 5, 1)
+                .does("undo").due(4, "known", 0, 6, 5, 1).due(4, "cell", 6, 5, 0);
+        Boundaries.scoutAt(0, 5, 5, 1).does("step", 0, 1, 0).due(12, "count", 8).does("undo").due(9, "count", 8)
+                .due(0, "known", 0, 7, 5, 0).due(NONE, "known", 0, 7, 5, 1);
+    }
+
+    static void promise15MemoriesFadeOnBehindAnUndo() {
+        Boundaries.scoutAt(0, 5, 5, 1).does("step", 0, 1, 0).does("pass", 4).does("pass", 3).due(3, "known", 0, 4, 5, 0)
+                .does("undo").due(6, "known", 0, 4, 5, 0).does("pass", 5).due(1, "known", 0, 4, 5, 0)
+                .due(10, "known", 0, 5, 5, 0).does("pass", 1).due(0, "known", 0, 4, 5, 0);
+    }
+
+    static void promise15LightsBurnOnBehindAnUndo() {
+        lightOf(3).due(0, "pass", 2).does("undo").due(0, "pass", 2).due(1, "pass", 1).due(3, "count", 5)
+                .does("undo").due(2, "count", 5).due(1, "light", 0, 3).due(1, "pass", 1);
+    }
+
+    static void promise15TheFogTimeBehindAnUndo() {
+        Boundaries.scoutAt(0, 5, 5, 1).does("setFogTime", 50).due(50, "known", 0, 5, 5, 0).does("undo")
+                .due(10, "known", 0, 5, 5, 0).due(10, "count", 4).does("pass", 1).due(10, "known", 0, 5, 5, 0);
+    }
+
+    static void promise15TheSameActionAgainBehindAnUndo() {
+        Boundaries.scoutAt(0, 5, 5, 1).due(3, "step", 0, 1, 0).does("undo").due(3, "step", 0, 1, 0)
+                .due(0, "step", 0, -1, 0).does("undo").due(0, "step", 0, -1, 0).due(3, "count", 10);
+        new Run().due(0, "addScout", 0, 5, 5, 1).does("undo").due(0, "addScout", 1, 5, 5, 1).due(1, "scout", 0, 0);
+        lightOf(5).due(5, "setOil", 0, 9).does("undo").due(5, "setOil", 0, 7).due(7, "light", 0, 3);
+    }
+
+    static void promise15RefusedAsBeforeBehindAnUndo() {
+        Boundaries.scoutAt(0, 5, 5, 1).does("removeScout", 0).does("undo").refused(ILLEGAL, "setWall", 5, 5, 1)
+                .refused(ILLEGAL, "addScout", 1, 5, 5, 1).writes(";;;;;00000#;").refused(-1010, "load");
+        Boundaries.crowd(10, 6).does("removeScout", 4).does("removeLight", 4).does("undo").does("undo")
+                .refused(FULL, "addScout", 0, 11, 9, 1).refused(FULL, "addLight", 0, 0, 0, 0);
+    }
 }
